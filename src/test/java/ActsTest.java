@@ -119,6 +119,13 @@ public final class ActsTest {
         Check.due("it holds on", x.holds(1, 0, 1), 1);
         Check.due("STATE is ahead of FULL", x.renew(0, 0, 0), -3);
         Check.due("400", x.count(4), 400);
+        LeaseBoard y = Boards.plain(1, 2);
+        y.thing(3, 10, 0);
+        Boards.taken(y, 1, 0, 1, 0);
+        Boards.lettersUpTo(y, 0, 0, 1, 0, 397);
+        Check.due("the third last", y.renew(1, 0, 0), 397);
+        Check.due("the second last", y.rise(1, 0, 0), 398);
+        Check.due("the last", y.end(1, 0, 0), 399);
     }
 
     private static void renews() {
