@@ -52,18 +52,6 @@ public final class ActsTest {
         }
     }
 
-    private static void letterIs(LeaseBoard x, int l, int... want) {
-        for (int what = 0; what < want.length; what++) {
-            Check.due("letter(" + l + ", " + what + ")", x.letter(l, what), want[what]);
-        }
-    }
-
-    private static void wroteIs(LeaseBoard x, int l, long number, long asked, long mark) {
-        Check.due("NUMBER of " + l, x.wrote(l, 0), number);
-        Check.due("ASKED of " + l, x.wrote(l, 1), asked);
-        Check.due("MARK of " + l, x.wrote(l, 2), mark);
-    }
-
     private static void askLetter() {
         LeaseBoard x = new LeaseBoard(10);
         x.keeper(0, 1000);
@@ -75,12 +63,12 @@ public final class ActsTest {
         x.tick(1000);
         x.wake(0, 1, false);
         Check.due("a keeper that sleeps may be asked", x.ask(1, 1, 1, 0, 9), 0);
-        letterIs(x, 0, 0, 1, 1, 1, 0, 9, 0);
-        wroteIs(x, 0, 0, -900 + 1010, 1);
+        Boards.letterIs(x, 0, 0, 1, 1, 1, 0, 9, 0);
+        Boards.wroteIs(x, 0, 0, -900 + 1010, 1);
         x.thing(3, 10, 0);
         Check.due("READ", x.ask(0, 0, 2, 1, 0), 1);
-        letterIs(x, 1, 0, 0, 0, 2, 1, 0, 0);
-        wroteIs(x, 1, 0, 1000, 1);
+        Boards.letterIs(x, 1, 0, 0, 0, 2, 1, 0, 0);
+        Boards.wroteIs(x, 1, 0, 1000, 1);
     }
 
     private static void askWaits() {
@@ -134,13 +122,13 @@ public final class ActsTest {
         Boards.taken(x, 1, 3, 1, 0);
         x.tick(4);
         int l = x.renew(1, 2, 2);
-        letterIs(x, l, 1, 1, 2, 2, 0, 5, 0);
-        wroteIs(x, l, 1, 4, 3);
+        Boards.letterIs(x, l, 1, 1, 2, 2, 0, 5, 0);
+        Boards.wroteIs(x, l, 1, 4, 3);
         Check.due("waits", x.holds(1, 2, 4), 1);
         Check.due("holds on", x.holds(1, 2, 1), 1);
         l = x.renew(1, 0, 3);
-        letterIs(x, l, 1, 1, 0, 3, 1, 0, 0);
-        wroteIs(x, l, 1, 4, 4);
+        Boards.letterIs(x, l, 1, 1, 0, 3, 1, 0, 0);
+        Boards.wroteIs(x, l, 1, 4, 4);
         x.tick(100);
         Check.due("it holds it, though it may not use it", x.renew(1, 0, 3), l + 1);
     }
@@ -152,15 +140,15 @@ public final class ActsTest {
         x.tick(4);
         x.renew(1, 0, 2);
         int l = x.end(1, 1, 2);
-        letterIs(x, l, 2, 1, 1, 2, 0, 5, 0);
-        wroteIs(x, l, 1, 0, 0);
+        Boards.letterIs(x, l, 2, 1, 1, 2, 0, 5, 0);
+        Boards.wroteIs(x, l, 1, 0, 0);
         Check.due("holds no more", x.holds(1, 2, 1), 0);
         Check.due("waits no more", x.holds(1, 2, 4), 0);
         Check.due("the other it holds", x.holds(1, 1, 1), 1);
         Check.due("once more", x.end(1, 1, 2), -3);
         x.tick(1000);
         l = x.end(1, 0, 1);
-        letterIs(x, l, 2, 1, 0, 1, 1, 0, 0);
+        Boards.letterIs(x, l, 2, 1, 0, 1, 1, 0, 0);
         Check.due("the board knows not of it yet", x.told(1, 4), 1);
     }
 
@@ -174,8 +162,8 @@ public final class ActsTest {
             Check.due("not RISING " + thing, x.rise(1, 0, thing), -2);
         }
         int l = x.rise(2, 1, 3);
-        letterIs(x, l, 3, 2, 1, 3, 0, 0, 0);
-        wroteIs(x, l, 2, 3, 2);
+        Boards.letterIs(x, l, 3, 2, 1, 3, 0, 0, 0);
+        Boards.wroteIs(x, l, 2, 3, 2);
         Check.due("waits", x.holds(2, 3, 4), 1);
         Check.due("holds READ as before", x.holds(2, 3, 2), 1);
         Check.due("it does not hold it", x.rise(0, 0, 3), -3);
