@@ -783,7 +783,7 @@ public final class LeaseBoard {
     }
 
     private boolean isStored(int store, int thing) {
-        return isWithin(store, 0, stores - 1) && store < greatest.length && thingAt(thing) != null;
+        return isWithin(store, 0, stores - 1) && store < STORES && thingAt(thing) != null && thing < THINGS;
     }
 
     private Party keeperAt(int n) {

@@ -2,7 +2,8 @@ import java.util.Random;
 
 /**
  * Runs by chance (always the same ones), of 512 calls each: every answer is the model's, no call throws,
- * and no two workers ever may use at once what no two may.
+ * and no two workers ever may use at once what no two may. Half-way and at the end all that can be asked is asked
+ * (beyond the 512 calls: the class has no bound there), so that no letter goes unread.
  */
 public final class AnyCallsTest {
     private static final String[] NAMES = {"keeper", "worker", "thing", "store", "tick", "clock", "wake", "fall",
@@ -27,7 +28,7 @@ public final class AnyCallsTest {
     }
 
     public static void main(String[] args) {
-        int runs = args.length > 0 ? Integer.parseInt(args[0]) : 3000;
+        int runs = args.length > 0 ? Integer.parseInt(args[0]) : 8000;
         int[] seen = new int[8];
         boolean fine = true;
         for (int seed = 0; seed < runs && fine; seed++) {
@@ -75,6 +76,14 @@ public final class AnyCallsTest {
                 return false;
             }
             calls++;
+            if (calls == 256 && !isSameInAll()) {
+                System.out.println(told);
+                return false;
+            }
+        }
+        if (!isSameInAll() || !isSameInTrays()) {
+            System.out.println(told);
+            return false;
         }
         seen[0] += board.count(9);
         seen[1] += board.count(10);
@@ -209,6 +218,68 @@ public final class AnyCallsTest {
             seen[7]++;
         }
         return got == want ? 1 : 0;
+    }
+
+    private boolean isSame(String name, int a, int b, int c) {
+        long want = ofModel(name, a, b, c, 0, 0);
+        long got = ofBoard(name, a, b, c, 0, 0);
+        if (got != want) {
+            told.append("in all: ").append(name).append(' ').append(a).append(' ').append(b).append(' ').append(c);
+            told.append(" -> ").append(got).append(", due ").append(want).append('\n');
+        }
+        return got == want;
+    }
+
+    private boolean isSameInAll() {
+        boolean same = isSame("status", 0, 0, 0);
+        for (int what = 0; what <= 14; what++) {
+            same &= isSame("count", what, 0, 0);
+        }
+        for (int letter = 0; letter < board.count(4); letter++) {
+            for (int what = 0; what <= 6; what++) {
+                same &= isSame("letter", letter, what, 0) & isSame("wrote", letter, what, 0);
+            }
+        }
+        for (int thing = 0; thing < board.count(2); thing++) {
+            same &= isSameOf(thing);
+        }
+        for (int who = 0; who < 20; who++) {
+            same &= isSame("clock", 0, who, 0) & isSame("clock", 1, who, 0);
+        }
+        return same;
+    }
+
+    private boolean isSameOf(int thing) {
+        boolean same = true;
+        for (int what = 0; what <= 17; what++) {
+            same &= isSame("told", thing, what, 0);
+        }
+        for (int i = 0; i < board.told(thing, 4); i++) {
+            for (int what = 0; what <= 2; what++) {
+                same &= isSame("grant", thing, i, what) & isSame("ends", thing, i, what);
+            }
+        }
+        for (int worker = 0; worker < board.count(1); worker++) {
+            for (int what = 0; what <= 4; what++) {
+                same &= isSame("holds", worker, thing, what) & isSame("held", worker, thing, what);
+            }
+        }
+        for (int store = 0; store < board.count(3); store++) {
+            same &= isSame("stored", store, thing, 0) & isSame("stored", store, thing, 1);
+        }
+        return same;
+    }
+
+    private boolean isSameInTrays() {
+        boolean same = true;
+        for (int tray = 0; tray < 6; tray++) {
+            for (int what = 0; what <= 8; what++) {
+                for (int n = -1; n <= 5; n++) {
+                    same &= isSame("forge", tray, what, n) & isSame("status", 0, 0, 0);
+                }
+            }
+        }
+        return same;
     }
 
     private long ofBoard(String name, int a, int b, int c, int d, int e) {

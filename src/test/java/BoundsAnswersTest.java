@@ -10,6 +10,7 @@ public final class BoundsAnswersTest {
         renewedTooLate();
         ended();
         endedForNothing();
+        endedForOthers();
         riseTooLate();
         riseWithWrite();
         riseBesideAnother();
@@ -55,7 +56,7 @@ public final class BoundsAnswersTest {
         for (int[] c : claims) {
             Scene held = with(c[0], 10, c[1]).then(x -> takes(x, 0, c[2], c[4]));
             held.answers("it has one, KIND " + c[0], NO, x -> sentBy(x, x.ask(0, 0, 0, c[3], c[4])));
-            Scene asked = held.then(x -> x.deliver(x.ask(0, 0, 0, c[3], c[4])));
+            Scene asked = held.then(x -> x.tick(1)).then(x -> x.deliver(x.ask(0, 0, 0, c[3], c[4])));
             asked.answers("one as before", 1, x -> x.told(0, 4));
             asked.answers("its NUMBER as before", 1, x -> x.ends(0, 0, 0));
             asked.answers("its END as before", 12, x -> x.ends(0, 0, 1));
@@ -98,8 +99,9 @@ public final class BoundsAnswersTest {
         for (int[] c : claims) {
             Scene held = with(c[0], 10, c[1]).then(x -> takes(x, 0, c[2], c[4]));
             held.answers("a NO, KIND " + c[0], NO, x -> sentBy(x, x.ask(1, 0, 0, c[3], c[4])));
-            Scene asked = held.then(x -> x.deliver(x.ask(1, 0, 0, c[3], c[4])));
+            Scene asked = held.then(x -> x.tick(1)).then(x -> x.deliver(x.ask(1, 0, 0, c[3], c[4])));
             asked.answers("one GRANT as before", 1, x -> x.told(0, 4));
+            asked.answers("its END as before", 12, x -> x.ends(0, 0, 1));
             asked.answers("nobody in the QUEUE", 0, x -> x.told(0, 6));
             asked.answers("GRANTED as before", 1, x -> x.count(9));
             asked.answers("it waits till it hears of it", 1, x -> x.holds(1, 0, 4));
@@ -211,6 +213,22 @@ public final class BoundsAnswersTest {
         late.then(x -> x.deliver(3)).answers("once", 5, x -> x.count(4));
     }
 
+    /** The look ahead of an END is not for that of its own GRANT alone: worker 1 reads since TIME 1, its END is 13. */
+    private static void endedForOthers() {
+        Document.terms("Else THE BOARD is LOOKED AT for the THING; then");
+        Scene old = with(1, 10, 0).then(x -> {
+            takes(x, 0, 1, 0);
+            x.deliver(x.twice(x.end(0, 0, 0)));
+            x.tick(1);
+            takes(x, 1, 1, 0);
+        });
+        old.answers("the END that is like the one delivered", 2, x -> x.letter(2, 0));
+        Scene before = old.then(x -> x.tick(11)).then(x -> x.deliver(2));
+        before.answers("one before the other's END", 1, x -> x.told(0, 4));
+        Scene at = old.then(x -> x.tick(12)).then(x -> x.deliver(2));
+        at.answers("at the other's END", 0, x -> x.told(0, 4));
+    }
+
     /** Workers 0 to n - 1 read thing 0 since TIME 0; their END is 12. */
     private static Scene readers(int n) {
         return with(3, 10, 0).then(x -> {
@@ -263,10 +281,12 @@ public final class BoundsAnswersTest {
         Scene riser = readers(3).then(x -> x.deliver(x.rise(1, 0, 0)));
         riser.answers("RISER", 1, x -> x.told(0, 5));
         riser.answers("another", NO, x -> sentBy(x, x.rise(0, 0, 0)));
-        Scene refused = riser.then(x -> x.deliver(x.rise(0, 0, 0)));
+        Scene refused = riser.then(x -> x.tick(3)).then(x -> x.deliver(x.rise(0, 0, 0)));
         refused.answers("the RISER stays", 1, x -> x.told(0, 5));
         refused.answers("a NO is counted", 1, x -> x.count(10));
         refused.answers("its END as before", 12, x -> x.ends(0, 0, 1));
+        refused.answers("the RISER's END as before", 12, x -> x.ends(0, 1, 1));
+        refused.answers("none is GRANTED", 3, x -> x.count(9));
         riser.answers("itself again: nothing", -1, x -> sentBy(x, x.rise(1, 0, 0)));
         Scene ended = riser.then(x -> x.deliver(x.end(1, 0, 0)));
         ended.answers("it ended: another rises", -1, x -> sentBy(x, x.rise(0, 0, 0)));
@@ -316,7 +336,7 @@ public final class BoundsAnswersTest {
         Document.terms("else nothing.");
         Scene two = readers(2).then(x -> x.rise(0, 0, 0));
         two.answers("nothing is sent", -1, x -> sentBy(x, 4));
-        Scene riser = two.then(x -> x.deliver(4));
+        Scene riser = two.then(x -> x.tick(3)).then(x -> x.deliver(4));
         riser.answers("RISER", 0, x -> x.told(0, 5));
         riser.answers("READ as before", 1, x -> x.grant(0, 0, 1));
         riser.answers("its END as before", 12, x -> x.ends(0, 0, 1));

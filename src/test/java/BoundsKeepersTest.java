@@ -56,6 +56,11 @@ public final class BoundsKeepersTest {
             x.keeper(0, 1000);
         });
         grown.answers("one more that comes counts", 0, x -> x.look(0));
+        Scene few = keepers(3, 1).then(x -> x.keeper(0, 1000));
+        few.answers("two of four are not MOST", -3, x -> x.look(0));
+        few.answers("the LEADER stays, though one came", 0, x -> x.count(7));
+        few.then(x -> x.wake(0, 2, true)).answers("three of four: it leads on", 0, x -> x.look(0));
+        few.then(x -> x.wake(0, 2, true)).answers("in its TERM", 1, x -> x.count(8));
     }
 
     private static void termAtFirst() {

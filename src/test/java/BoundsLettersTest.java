@@ -6,6 +6,7 @@ public final class BoundsLettersTest {
         underWay();
         zerosOfLetters();
         answersAreAlike();
+        noToARise();
         delivered();
         notToTheLeader();
         notToOneAsleep();
@@ -496,6 +497,40 @@ public final class BoundsLettersTest {
             x.deliver(x.twice(8));
             x.deliver(8);
         }).answers("one like it, too", 2, x -> x.count(12));
+        Scene held = called.then(x -> {
+            int ask = x.ask(1, 0, 1, 0, 0);
+            x.deliver(ask);
+            x.deliver(ask + 1);
+        });
+        held.answers("it holds it by now", 1, x -> x.holds(1, 1, 1));
+        held.then(x -> x.deliver(8)).answers("late, it is counted all the same", 1, x -> x.count(12));
+        held.then(x -> x.deliver(8)).answers("and it holds on", 1, x -> x.holds(1, 1, 1));
+    }
+
+    /** What a RISE has that an ASK has not, its NUMBER, does not come back with a NO. */
+    private static void noToARise() {
+        LeaseBoard x = new LeaseBoard(0);
+        for (int n = 0; n < 2; n++) {
+            x.keeper(0, 1000);
+            x.worker(-100 * n, 1000);
+            x.thing(3, 10, 0);
+        }
+        x.lead(1);
+        for (int worker = 0; worker < 2; worker++) {
+            x.deliver(Boards.answered(x, x.ask(worker, 1, 1, 1, 0)));
+        }
+        Check.due("a RISER", Boards.answered(x, x.rise(0, 1, 1)), -1);
+        x.tick(3);
+        int rise = x.rise(1, 1, 1);
+        Boards.wroteIs(x, rise, 2, -97, 2);
+        x.tick(1);
+        int no = Boards.answered(x, rise);
+        Boards.letterIs(x, no, 5, 1, 1, 1, 0, 0, 0);
+        Boards.wroteIs(x, no, 0, -97, 2);
+        Check.due("it waits", x.holds(1, 1, 4), 1);
+        x.deliver(no);
+        Check.due("for that MARK no more", x.holds(1, 1, 4), 0);
+        Check.due("and reads on", x.holds(1, 1, 2), 1);
     }
 
     private static void mayUse() {
